@@ -94,9 +94,6 @@ public final class EndsWord {
         if (!within(v, 0, DIGIT)) {
             return BAD;
         }
-        if (now.size >= PLAYER_LIMIT) {
-            return FULL;
-        }
         return now.join(kind, v);
     }
 
@@ -197,7 +194,7 @@ public final class EndsWord {
     // ---- turns
 
     public int turn() {
-        now.recall();
+        now.prepare();
         return now.play(now.round);
     }
 
@@ -251,7 +248,8 @@ public final class EndsWord {
             return NONE;
         }
         Line row = now.round.row;
-        int winning = Book.winning(now.book, now.book.fitting(row, row.size), row.size, now.table.least);
+        now.book.weigh(now.book.all(), now.table.least);
+        int winning = now.book.winning(now.book.fitting(row, row.size), row.size, now.table.least);
         if (what == 1) {
             return winning;
         }
@@ -265,6 +263,7 @@ public final class EndsWord {
         if (!canAdd()) {
             return STATE;
         }
+        now.prepare();
         int loser = loserBy(letter);
         return loser < 0 ? NOT_ANY : loser;
     }
@@ -393,7 +392,9 @@ public final class EndsWord {
         if (!within(m, 0, DIGIT)) {
             return BAD;
         }
-        return Book.winning(now.book, now.book.asCommonAs(m), 0, now.table.least);
+        int among = now.book.asCommonAs(m);
+        now.book.weigh(among, now.table.least);
+        return now.book.winning(among, 0, now.table.least);
     }
 
     // ---- odds, sheets
@@ -402,6 +403,7 @@ public final class EndsWord {
         if (!now.hasPlayer(player) || !within(part, 0, 1) || !canAdd()) {
             return NO;
         }
+        now.prepare();
         int lost = 0;
         for (int letter = 0; letter < LETTERS; letter++) {
             if (loserBy(letter) == player) {
@@ -602,7 +604,7 @@ public final class EndsWord {
 
     /** A second round that goes on from how all is, so that what is asked changes nothing. */
     private Round lookAhead() {
-        now.recall();
+        now.prepare();
         ahead.copy(now.round);
         return ahead;
     }
@@ -611,9 +613,10 @@ public final class EndsWord {
         return now.acting(now.round) >= 0 && !now.round.row.isFull();
     }
 
-    /** Who LOSES first, if who is NEXT adds the letter in TURN 1; it must be able to add. */
+    /** Who LOSES first, if who is NEXT adds the letter in TURN 1; to be called when it can add, and all is prepared. */
     private int loserBy(int letter) {
-        Round round = lookAhead();
+        Round round = ahead;
+        round.copy(now.round);
         round.next = now.acting(round);
         now.add(round, letter);
         for (int turn = 2; turn <= TURN_LIMIT && round.loser < 0; turn++) {
@@ -714,6 +717,8 @@ public final class EndsWord {
         final int[] placed = new int[WORD_LIMIT * LETTERS];
         /** The WORDS of so many letters. */
         final int[] ofLength = new int[WORD_LIMIT + 1];
+        /** The WORDS whose first letters, so many, are a LOST row, as weigh() found it last. */
+        final int[] lost = new int[WORD_LIMIT + 1];
         int size = 0;
 
         Book() {
@@ -808,21 +813,34 @@ public final class EndsWord {
             return left;
         }
 
-        /** The letters with which a row that these fit is WON; none: it is LOST. */
-        private static int winning(Book book, int fits, int length, int least) {
-            // No WORD goes on from here, and so nothing goes deeper.
-            if (length >= WORD_LIMIT) {
-                return 0;
+        /** Finds which rows are LOST, if THE BOOK has these WORDS alone; the longest first, as others hang on them. */
+        void weigh(int among, int least) {
+            for (int length = WORD_LIMIT; length >= 0; length--) {
+                lost[length] = 0;
+                for (int word = 0; word < size; word++) {
+                    int fits = among & fitting(words[word], length);
+                    if (isIn(fits, word) && winning(fits, length, least) == 0) {
+                        lost[length] |= 1 << word;
+                    }
+                }
             }
-            int letters = book.notEnding(fits, length, book.going(fits, length), least);
+        }
+
+        /** The letters with which a row that these fit is WON, among the WORDS of the latest weigh(). */
+        int winning(int fits, int length, int least) {
+            int letters = notEnding(fits, length, going(fits, length), least);
             int wins = 0;
             for (int letter = 0; letter < LETTERS; letter++) {
-                int longer = fits & book.having(length, letter);
-                if (isIn(letters, letter) && winning(book, longer, length + 1, least) == 0) {
+                if (isIn(letters, letter) && isLost(fits & having(length, letter), length + 1)) {
                     wins |= 1 << letter;
                 }
             }
             return wins;
+        }
+
+        /** Of a row that some WORD fits; all that fit it begin alike, and so stand in lost alike. */
+        private boolean isLost(int fits, int length) {
+            return length <= WORD_LIMIT && (fits & lost[length]) != 0;
         }
     }
 
@@ -1102,6 +1120,7 @@ public final class EndsWord {
             return within(player, 0, size - 1);
         }
 
+        /** The number of a new PLAYER, or FULL. */
         int join(int kind, int v) {
             if (size >= PLAYER_LIMIT) {
                 return FULL;
@@ -1143,6 +1162,12 @@ public final class EndsWord {
             for (int player = 0; player < size; player++) {
                 known[player] = table.known(players[player], book);
             }
+        }
+
+        /** To be called ahead of all TURNS. */
+        void prepare() {
+            recall();
+            book.weigh(book.all(), table.least);
         }
 
         boolean knowsAllSeen(int player) {
@@ -1252,7 +1277,7 @@ public final class EndsWord {
             if (player.kind == TOLD && isIn(may, part)) {
                 return part;
             }
-            int leading = player.kind == LED ? safe & Book.winning(book, fits, length, table.least) : 0;
+            int leading = player.kind == LED ? safe & book.winning(fits, length, table.least) : 0;
             if (leading != 0) {
                 return first(leading);
             }

@@ -657,6 +657,8 @@ public final class PromiseTest {
         due("told(2), nothing changes", x.told(2), 0);
         x.live(0, 0);
         due("by(0), 1 alone", x.by(0), 1);
+        table(x, "least 1");
+        due("by(1), which ENDS, 1 alone", x.by(1), 1);
         x.live(1, 0);
         due("by(0), nobody has LIVES", x.by(0), -3);
         due("by(4), nobody has LIVES", x.by(4), -1);
@@ -706,6 +708,14 @@ public final class PromiseTest {
         due("ends(0)", x.ends(0), 0);
         due("ends(1)", x.ends(1), 3);
         due("learn(0, 3), of several the first", x.learn(0, 3), 2);
+        EndsWord best = new EndsWord();
+        best.player(0, 0);
+        best.player(0, 1);
+        word(best, "00", 0);
+        word(best, "11", 9);
+        table(best, "know p=2");
+        due("learn(0, 1), the WORD 0", best.learn(0, 1), 0);
+        due("learn(0, 2), the WORD 0", best.learn(0, 2), 0);
         due("learn(0, 2)", x.learn(0, 2), -5);
         due("learn(0, 0)", x.learn(0, 0), -5);
         due("learn(1, 60), it KNOWS all", x.learn(1, 60), -5);
@@ -788,6 +798,12 @@ public final class PromiseTest {
         x.see(0, 2, 1);
         due("could(0), not the second", x.could(0), 0);
         due("could(2), as it is another's", x.could(2), 1);
+        x.image();
+        x.see(-1, 0, 0);
+        x.see(0, 0, 3);
+        due("could(0), of what is SEEN anew", x.could(0), 1);
+        x.undo();
+        due("could(0), as THE IMAGE", x.could(0), 0);
         of(24, "can");
         due("can(0, 1)", x.can(0, 1), 3);
         due("can(2, 1)", x.can(2, 1), 2);
@@ -900,6 +916,16 @@ public final class PromiseTest {
         due("looked(), the second does not come", x.looked(), 1);
         x.live(0, 0);
         due("looked(), nobody has LIVES", x.looked(), 0);
+        EndsWord bold = game("", 3);
+        bold.live(0, 9);
+        for (int k = 0; k < 5; k++) {
+            bold.sheet(0);
+            bold.turn();
+        }
+        due("looked(), the fifth comes in TURN 60", bold.looked(), -5);
+        bold.begin(0);
+        bold.turn();
+        due("looked(), the fifth comes in TURN 64", bold.looked(), 4);
         due("told(2), nothing changes", x.told(2), 0);
     }
 
