@@ -815,7 +815,7 @@ public final class EndsWord {
 
         /** Finds which rows are LOST, if THE BOOK has these WORDS alone; the longest first, as others hang on them. */
         void weigh(int among, int least) {
-            for (int length = WORD_LIMIT; length >= 0; length--) {
+            for (int length = WORD_LIMIT; length >= 1; length--) {
                 lost[length] = 0;
                 for (int word = 0; word < size; word++) {
                     int fits = among & fitting(words[word], length);

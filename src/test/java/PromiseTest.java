@@ -503,6 +503,8 @@ public final class PromiseTest {
         turns(game("012 1", 4, 0), 1, 110);
         turns(game("012 1", 0, 0), 0, 1, 102);
         turns(game("000 010 110", 4, 0), 1);
+        turns(game("3001 3101 11", 4, 0), 3);
+        turns(game("3001 3101 11", 1, 0), 1);
         turns(game("0000 1111 22 222", 4, 0), 0);
     }
 
@@ -640,6 +642,9 @@ public final class PromiseTest {
         table(x, "least 4;know p=9");
         due("won(1) at 01, nothing ENDS, whatever one KNOWS", x.won(1), 4);
         due("won(0) of an empty BOOK", new EndsWord().won(0), 0);
+        x = game("000000");
+        table(x, "least 7");
+        due("won(0), six LETTERS that do not END are LOST", x.won(0), 0);
         x = game("0 1 2 3");
         due("won(1)", x.won(1), 15);
         table(x, "least 1");
