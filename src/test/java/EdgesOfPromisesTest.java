@@ -265,6 +265,13 @@ public final class EdgesOfPromisesTest {
         on("players: 0", "book: 0 1/7", "table: know c=7;least 2;lives 8", "feed: know c=5;least 1;lives 1;", "table() = -35",
             "told(3) = 2", "told(4) = 8", "of(0, 5) = 2", "count(2) = 1", "feed: lives 7", "table() = 1", "told(4) = 7",
             "told(3) = 3", "of(0, 5) = 3");
+        sentence("10: of a TEXT with a FAULT nothing holds later");
+        on("players: 0", "book: 0 1", "feed: know c=1;least 8;lives 8;", "table() = -35", "feed: know c=5", "table() = 0",
+            "told(3) = 3", "told(4) = 3", "of(0, 5) = 3");
+        on("players: 0", "book: 0 1", "feed: know c=1;least 8;lives 8;", "table() = -35", "feed: least 1", "table() = 0",
+            "told(4) = 3", "of(0, 5) = 3", "players: 0", "of(1, 2) = 3");
+        on("players: 0", "book: 0 1/7", "feed: know !c=7|!c=7;", "table() = -25", "feed: know c=7", "table() = 0",
+            "of(0, 5) = 2");
         on(more(five, "feed: lives 77x", "table() = -18", "told(4) = 5", "count(2) = 5", "count(5) = 0", "feed: least 1",
             "table() = 5"));
     }
@@ -407,6 +414,10 @@ public final class EdgesOfPromisesTest {
         lateLearning();
         sentence("19: (of several the first)");
         on(more(TO_LEARN, "learn(0, 3) = 2"));
+        sentence("19: the WORD: the first of THE BOOK, and the last of twelve");
+        on("book: 0000/0 1/9", "players: 0", "table: know c>0", "learn(0, 2) = 0");
+        on("book: 1 10 11 12 13 20 21 22 23 30 31 0000/0", "players: 0", "table: know c>0", "learn(0, 2) = -5",
+            "learn(0, 3) = 11");
         sentence("19: -5 (it KNOWS all, or there are none)");
         on(more(TO_LEARN, "learn(1, 3) = -5", "learn(1, 60) = -5"));
         on("players: 0", "learn(0, 1) = -5");
@@ -461,6 +472,10 @@ public final class EdgesOfPromisesTest {
         on("see(-1, 0, 0) = 0", "see(-1, MIN, MAX) = 0");
         on(more(two, "table: know c=5", "could(1) = 0", "see(-1, -1, -1) = 0", "count(3) = 0", "could(1) = 1",
             "6 times: see(0, 1, 1)", "see(-1, 0, 1) = 0", "see(0, 1, 1) = 1", "see(-1, 99, 1) = 0", "count(3) = 0"));
+        sentence("22: none then: the rows that are SEEN later are theirs alone");
+        on("book: 01/1 02/2", "players: 0 0", "table: know c=2", "see(0, 0, 2) = 1", "see(0, 0, 1) = 2", "could(0) = 0",
+            "see(-1, 0, 0) = 0", "see(0, 0, 1) = 1", "could(0) = 1", "see(-1, 0, 0) = 0", "see(1, 0, 2) = 1",
+            "could(0) = 1", "could(1) = 0", "see(-1, 0, 0) = 0", "see(0, 1, 2) = 1", "could(0) = 1");
         sentence("22: NONE: player");
         unchanged(two, "see(-2, 0, 1) = NONE", "see(2, 0, 1) = NONE", "see(MIN, 0, 1) = NONE", "see(MAX, 0, 1) = NONE");
         sentence("22: NONE: word");
@@ -631,6 +646,33 @@ public final class EdgesOfPromisesTest {
             "of(1, 1) = 1", "of(0, 5) = 3", "could(0) = 0", "could(1) = 1", "letter(1, 11) = 1", "letter(3, 0) = NONE");
         on(more(held, more(other, more(back, more(other, back)))));
         on(more(held, more(other, more(back, "row(1, 2, 1) = 3", "undo()", "row(1, 2, 1) = 3"))));
+        sentence("32: THE BOOK: another WORD of the same number");
+        on("players: 0", "image()", "book: 301230/7", "undo()", "letter(0, 0) = NONE", "won(1) = 0", "book: 01230/6",
+            "letter(0, 0) = 6", "letter(0, 1) = 5", "letter(0, 10) = 0", "of(0, 3) = 1", "turns: 0 1 2 3 100");
+        for (int n = 1; n <= 5; n++) {
+            String shorter = "2".repeat(n);
+            on("players: 0", "table: least 1", "image()", "book: " + shorter, "undo()", "book: 222222", "turns: 2 2 2 2 2 102");
+        }
+        on("players: 0", "image()", "book: 000111", "undo()", "book: 333222", "turns: 3 3 3 2 2 102", "of(0, 3) = 8");
+        sentence("32: PLAYERS with all that is theirs: the first, and the fifth");
+        on("players: 6 0 0 0 6", "row(0, 0, 1)", "row(4, 3, 2)", "lives: 1 2 3 4 5", "image() = 5", "row(0, 0, 2)",
+            "row(4, 3, 3)", "lives: 9 9 9 9 9", "undo() = 5", "row(0, 0, 0) = 1", "row(4, 3, 0) = 2", "of(0, 2) = 1",
+            "of(3, 2) = 4", "of(4, 2) = 5");
+        on("players: 0", "image() = 1", "players: 6/9", "row(1, 0, 3)", "live(1, 99)", "undo() = 1", "players: 6/1",
+            "row(1, 0, 0) = 0", "of(1, 2) = 3", "of(1, 1) = 1");
+        sentence("32: SEEN: whose, which WORD, how many LETTERS");
+        on("book: 01/1 02/2 3/2", "players: 0 0", "table: know c=2", "see(0, 0, 2)", "image()", "see(-1, 0, 0)",
+            "see(0, 0, 1)", "could(0) = 1", "undo()", "could(0) = 0", "see(-1, 0, 0)", "see(0, 1, 2)", "could(0) = 1",
+            "undo()", "could(0) = 0", "see(-1, 0, 0)", "see(1, 0, 2)", "could(0) = 1", "undo()", "could(0) = 0",
+            "could(1) = 1");
+        sentence("32: the SHEET: who");
+        on("players: 0 0", "lives: 99 0", "sheet(1)", "image()", "sheet(-1)", "sheet(0)", "looked() = -5", "undo()",
+            "looked() = 0");
+        sentence("32: NEXT, LAST, THE ROW: none, and twelve");
+        on(more(TWELVE, "image()", "turn() = 110", "turns: 2 1", "undo()", "ROW: 121212121212", "told(0) = 0",
+            "told(1) = 1"));
+        on(more(lines("players: 3/1 3/2", "image()"), "turn()", "turn()", "turn()", "undo()", "ROW: ", "told(0) = 0",
+            "told(1) = -5"));
         sentence("32: how many PLAYERS: none");
         on("image()", "players: 0 0", "undo() = 0", "of(0, 0) = NONE", "turn() = STATE");
         sentence("32: THE IMAGE: (not LETTERS that were spelled)");
@@ -655,6 +697,9 @@ public final class EdgesOfPromisesTest {
             String call = "act(1, " + act + ", 5)";
             on(more(RICH, call, "told(0) = 2", "of(0, 2) = 4", "of(1, 2) = 4", "of(2, 2) = 7", "of(3, 2) = 4", "count(6) = 3"));
         }
+        sentence("33: ^ of a number below 0, and of one above");
+        on("players: 1/1", "act(0, 1, 8) = 1", "act(0, 1, -1) = -8", "act(0, 2, 8) = 2");
+        on("players: 6/5", "act(0, 0, 7) = 2", "act(0, 0, -1) = -6", "act(0, 1, 7) = -1");
         sentence("33: ACTS of a PLAYER with x (wrapping)");
         on("players: 0 0 0 0 0", "act(4, 0, MAX) = -2147483645", "act(4, 0, -4) = 0");
         on("players: 0/9", "act(0, 1, MIN) = 2147483639", "act(0, 2, MAX) = -20");

@@ -285,6 +285,15 @@ public final class EdgesOfTermsTest {
         known("f>2", 4);
         known("f>3", 0);
         known("f<4", 7);
+        sentence("a number: the lowest");
+        for (String letter : lines("p", "k", "v", "c", "l", "f")) {
+            known(letter + "<0", 0);
+            known("!" + letter + "<0", 7);
+            known(letter + "<0|c=5", 2);
+            known("c=5&" + letter + "<0", 0);
+        }
+        on("book: 0/0", "players: 0", "table: know p=0&k=0&v=0&c=0&f=0", "of(0, 5) = 1", "table: know p>0|k>0|v>0|c>0|f>0",
+            "of(0, 5) = 0");
         sentence("a number: the highest");
         known("c<99", 7);
         known("c=99", 0);
@@ -411,6 +420,12 @@ public final class EdgesOfTermsTest {
         known("!c=0&!c=5", 4);
         known("!(c=0&!c=5)", 6);
         known("!c=0|c=0&l=2", 6);
+        known("c=9&(c=0|c=5)", 0);
+        known("c=5&(c=9)", 0);
+        known("c=5&(c=5|c=9)", 2);
+        known("c=0|(c=9)", 5);
+        known("c<9&(c=0|c=9|c=5)&l=2|c=9", 6);
+        known("!(c=0|c=5)&(c=5|(c=0|c=9))", 4);
     }
 
     private static void leastAndLives() {
@@ -550,6 +565,8 @@ public final class EdgesOfTermsTest {
         sentence("SLY: the fewest MAY: none of one, one of two, four");
         on("players: 1 0", "book: 000 010 020 030 100 110 120 200 210 300", "turns: 3");
         on("players: 1 0", "book: 000 010 020 030 100 110 120 200 210 300 310 320", "turns: 2");
+        on("players: 1 0", "book: 000 010 020 030", "turns: 0");
+        on("players: 1 0", "book: 100 110 120 130 200 210 220", "turns: 2");
         sentence("SLY: (of several the least)");
         on("players: 1 0", "book: 000 100 200 300", "turns: 0");
         on("players: 1 0", "book: 000 010 200 300", "turns: 2");
